@@ -1,5 +1,9 @@
 // Promises 15 to 17: matches.
 public final class BlankMatcherMatches extends SentenceTests {
+    private static final String APART =
+        "Returns how many matches can be chosen so that their windows do not overlap, if one goes"
+        + " from the left to the right and takes each one that does not overlap the one that was taken last.";
+
     public static void main(String[] args) {
         run(BlankMatcherMatches.class);
     }
@@ -104,8 +108,7 @@ public final class BlankMatcherMatches extends SentenceTests {
 
     // ---- promise 17: apart
 
-    @Sentence(promise = 17, says = "Returns how many matches can be chosen so that their windows do not overlap, if one goes"
-        + " from the left to the right and takes each one that does not overlap the one that was taken last.")
+    @Sentence(promise = 17, says = APART)
     static void apartGoesFromTheLeftToTheRight() {
         of("aaaaa", "aa").due(2, "apart");
         of("ababab", "ab").due(3, "apart");
@@ -114,8 +117,7 @@ public final class BlankMatcherMatches extends SentenceTests {
         of("abababab", "aba").due(2, "apart");
     }
 
-    @Sentence(promise = 17, says = "Returns how many matches can be chosen so that their windows do not overlap, if one goes"
-        + " from the left to the right and takes each one that does not overlap the one that was taken last.")
+    @Sentence(promise = 17, says = APART)
     static void apartTakesWindowsSideBySideAndNoneThatShareASymbol() {
         of("aaaa", "aa").due(2, "apart");
         of("aaa", "aa").due(1, "apart");

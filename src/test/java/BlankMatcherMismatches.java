@@ -1,5 +1,14 @@
 // Promises 18 to 21: mismatches at a place.
 public final class BlankMatcherMismatches extends SentenceTests {
+    private static final String AT_A_LETTER =
+        "Returns how many of the mismatches at a place are at symbols of the pattern that are"
+        + " some letter.";
+    private static final String NUMBER_OR_NONE =
+        "Returns the number of the symbol of the pattern; NONE if there is no mismatch from there on.";
+    private static final String AGREEMENT =
+        "Returns how many symbols agree, one after the other, from a symbol of the text and a"
+        + " symbol of the pattern on, until there is a mismatch, or one of both ends.";
+
     public static void main(String[] args) {
         run(BlankMatcherMismatches.class);
     }
@@ -56,8 +65,7 @@ public final class BlankMatcherMismatches extends SentenceTests {
 
     // ---- promise 19: mismatchesOf
 
-    @Sentence(promise = 19, says = "Returns how many of the mismatches at a place are at symbols of the pattern that are"
-        + " some letter.")
+    @Sentence(promise = 19, says = AT_A_LETTER)
     static void mismatchesOfOneLetterOfThePattern() {
         Subject x = of("bbab.", "aba.");
         x.due(1, "mismatchesOf", 0, 1);
@@ -67,8 +75,7 @@ public final class BlankMatcherMismatches extends SentenceTests {
         x.due(0, "mismatchesOf", 1, 26);
     }
 
-    @Sentence(promise = 19, says = "Returns how many of the mismatches at a place are at symbols of the pattern that are"
-        + " some letter.")
+    @Sentence(promise = 19, says = AT_A_LETTER)
     static void mismatchesOfTheTextsLetterIsNone() {
         Subject x = of("a", "z");
         x.due(0, "mismatchesOf", 0, 1);
@@ -188,8 +195,7 @@ public final class BlankMatcherMismatches extends SentenceTests {
         of("", "").due(-1, "nextMismatch", 0, MOST);
     }
 
-    @Sentence(promise = 20,
-        says = "Returns the number of the symbol of the pattern; NONE if there is no mismatch from there on.")
+    @Sentence(promise = 20, says = NUMBER_OR_NONE)
     static void nextMismatchIsTheLastSymbolOrNone() {
         Subject x = of("aaab", "aaac");
         x.due(3, "nextMismatch", 0, 0);
@@ -199,8 +205,7 @@ public final class BlankMatcherMismatches extends SentenceTests {
         of("b..c", ".ab.").due(BlankMatcher.NONE, "nextMismatch", 0, 0);
     }
 
-    @Sentence(promise = 20,
-        says = "Returns the number of the symbol of the pattern; NONE if there is no mismatch from there on.")
+    @Sentence(promise = 20, says = NUMBER_OR_NONE)
     static void nextMismatchOfTheEmptyPatternIsNone() {
         of("", "").due(BlankMatcher.NONE, "nextMismatch", 0, 0);
         of("abc", "").due(BlankMatcher.NONE, "nextMismatch", 0, 0);
@@ -241,8 +246,7 @@ public final class BlankMatcherMismatches extends SentenceTests {
 
     // ---- promise 21: agreement
 
-    @Sentence(promise = 21, says = "Returns how many symbols agree, one after the other, from a symbol of the text and a"
-        + " symbol of the pattern on, until there is a mismatch, or one of both ends.")
+    @Sentence(promise = 21, says = AGREEMENT)
     static void agreementUntilThereIsAMismatch() {
         Subject x = of("abc.e", "bcdx");
         x.due(3, "agreement", 1, 0);
@@ -252,8 +256,7 @@ public final class BlankMatcherMismatches extends SentenceTests {
         of("aabaa", "aacaa").due(2, "agreement", 0, 0);
     }
 
-    @Sentence(promise = 21, says = "Returns how many symbols agree, one after the other, from a symbol of the text and a"
-        + " symbol of the pattern on, until there is a mismatch, or one of both ends.")
+    @Sentence(promise = 21, says = AGREEMENT)
     static void agreementUntilOneOfBothEnds() {
         of("ab", "bcd").due(1, "agreement", 1, 0);
         of("abcd", "xbc").due(2, "agreement", 1, 1);
@@ -261,8 +264,7 @@ public final class BlankMatcherMismatches extends SentenceTests {
         of("a", "ab").due(1, "agreement", 0, 0);
     }
 
-    @Sentence(promise = 21, says = "Returns how many symbols agree, one after the other, from a symbol of the text and a"
-        + " symbol of the pattern on, until there is a mismatch, or one of both ends.")
+    @Sentence(promise = 21, says = AGREEMENT)
     static void agreementForgetsSymbolsThatWereCleared() {
         Subject x = of("aaa", "aaa");
         x.due(3, "clearText");

@@ -1,5 +1,9 @@
 // Promises 5 to 7, 9, 11 and 12: the calls that change the pattern, and the places.
 public final class BlankMatcherPattern extends SentenceTests {
+    private static final String NO_SUCH_PART =
+        "Throws `IndexOutOfBoundsException` if from is below 0,"
+        + " or from + many is greater than the length of the text";
+
     public static void main(String[] args) {
         run(BlankMatcherPattern.class);
     }
@@ -268,8 +272,7 @@ public final class BlankMatcherPattern extends SentenceTests {
         }
     }
 
-    @Sentence(promise = 7, says = "Throws `IndexOutOfBoundsException` if from is below 0,"
-        + " or from + many is greater than the length of the text")
+    @Sentence(promise = 7, says = NO_SUCH_PART)
     static void takePatternRefusesFromBelowZero() {
         for (int from : new int[] {-1, -2, -24, LEAST}) {
             of("abc", "q").refused(INDEX, "takePattern", from, 0);
@@ -279,8 +282,7 @@ public final class BlankMatcherPattern extends SentenceTests {
         }
     }
 
-    @Sentence(promise = 7, says = "Throws `IndexOutOfBoundsException` if from is below 0,"
-        + " or from + many is greater than the length of the text")
+    @Sentence(promise = 7, says = NO_SUCH_PART)
     static void takePatternRefusesAPartBehindTheEnd() {
         int[][] parts = {{4, 0}, {3, 1}, {2, 2}, {0, 4}, {0, 24}, {3, 24}};
         for (int[] part : parts) {
@@ -293,8 +295,7 @@ public final class BlankMatcherPattern extends SentenceTests {
         of(FULL_TEXT, "q").refused(INDEX, "takePattern", 41, 24);
     }
 
-    @Sentence(promise = 7, says = "Throws `IndexOutOfBoundsException` if from is below 0,"
-        + " or from + many is greater than the length of the text")
+    @Sentence(promise = 7, says = NO_SUCH_PART)
     static void takePatternAnswersUpToTheEnd() {
         Subject x = of("abc", "q");
         x.due(0, "takePattern", 3, 0);
@@ -308,8 +309,7 @@ public final class BlankMatcherPattern extends SentenceTests {
         of("", "q").due(0, "takePattern", 0, 0);
     }
 
-    @Sentence(promise = 7, says = "Throws `IndexOutOfBoundsException` if from is below 0,"
-        + " or from + many is greater than the length of the text")
+    @Sentence(promise = 7, says = NO_SUCH_PART)
     static void takePatternRefusesSumsThatWrapRound() {
         int[][] parts = {
             {MOST, 0}, {MOST, 1}, {MOST, 2}, {MOST, 24}, {MOST - 23, 24}, {MOST - 22, 24}, {LEAST, 0}, {LEAST, 24},

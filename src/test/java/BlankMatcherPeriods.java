@@ -3,14 +3,17 @@ public final class BlankMatcherPeriods extends SentenceTests {
     private static final int YES = 1;
     private static final int NO = 0;
 
+    private static final String HAS_PERIOD =
+        "Tells whether the text has a period: whether each two symbols of the text that are just"
+        + " so far apart, no farther, agree.";
+
     public static void main(String[] args) {
         run(BlankMatcherPeriods.class);
     }
 
     // ---- promise 29: hasPeriod
 
-    @Sentence(promise = 29, says = "Tells whether the text has a period: whether each two symbols of the text that are just"
-        + " so far apart, no farther, agree.")
+    @Sentence(promise = 29, says = HAS_PERIOD)
     static void hasPeriodOfEachLength() {
         Subject x = of("abcab.ab", "a");
         int[] answers = {NO, NO, YES, NO, NO, YES, NO};
@@ -19,8 +22,7 @@ public final class BlankMatcherPeriods extends SentenceTests {
         }
     }
 
-    @Sentence(promise = 29, says = "Tells whether the text has a period: whether each two symbols of the text that are just"
-        + " so far apart, no farther, agree.")
+    @Sentence(promise = 29, says = HAS_PERIOD)
     static void hasPeriodLooksNoFarther() {
         of("a.b", "").due(YES, "hasPeriod", 1);
         of("a.b", "").due(NO, "hasPeriod", 2);
@@ -28,8 +30,7 @@ public final class BlankMatcherPeriods extends SentenceTests {
         of("ab.bcb", "").due(NO, "hasPeriod", 4);
     }
 
-    @Sentence(promise = 29, says = "Tells whether the text has a period: whether each two symbols of the text that are just"
-        + " so far apart, no farther, agree.")
+    @Sentence(promise = 29, says = HAS_PERIOD)
     static void hasPeriodLooksAtTheFirstAndTheLastTwoSymbols() {
         of("ab" + "b".repeat(62), "").due(NO, "hasPeriod", 1);
         of("b".repeat(62) + "ba", "").due(NO, "hasPeriod", 1);

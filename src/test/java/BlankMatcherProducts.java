@@ -1,14 +1,20 @@
 // Promises 13 and 14: products.
 public final class BlankMatcherProducts extends SentenceTests {
+    private static final String PRODUCT =
+        "Returns a coefficient of the product of two polynomials: that of the text, in which the"
+        + " symbol i is the coefficient of x to the power of i, and that of the pattern turned round, in which the"
+        + " symbol j is the coefficient of x to the power of the length of the pattern less 1 less j.";
+    private static final String DIFFERENCE =
+        "Returns the sum over all j of p * t * (p - t) * (p - t), where p is the symbol j of the"
+        + " pattern and t the symbol with which it is compared at a place.";
+
     public static void main(String[] args) {
         run(BlankMatcherProducts.class);
     }
 
     // ---- promise 13: product
 
-    @Sentence(promise = 13, says = "Returns a coefficient of the product of two polynomials: that of the text, in which the"
-        + " symbol i is the coefficient of x to the power of i, and that of the pattern turned round, in which the"
-        + " symbol j is the coefficient of x to the power of the length of the pattern less 1 less j.")
+    @Sentence(promise = 13, says = PRODUCT)
     static void productTurnsThePatternRound() {
         // (1 + 2x + 3x^2) (5 + 4x)
         Subject x = of("abc", "de");
@@ -18,9 +24,7 @@ public final class BlankMatcherProducts extends SentenceTests {
         x.due(12, "product", 3);
     }
 
-    @Sentence(promise = 13, says = "Returns a coefficient of the product of two polynomials: that of the text, in which the"
-        + " symbol i is the coefficient of x to the power of i, and that of the pattern turned round, in which the"
-        + " symbol j is the coefficient of x to the power of the length of the pattern less 1 less j.")
+    @Sentence(promise = 13, says = PRODUCT)
     static void productTakesBlanksAsZero() {
         // (2 + 0x + 3x^2) (5 + 0x + 1x^2 + 0x^3)
         Subject x = of("b.c", ".a.e");
@@ -32,9 +36,7 @@ public final class BlankMatcherProducts extends SentenceTests {
         x.due(0, "product", 5);
     }
 
-    @Sentence(promise = 13, says = "Returns a coefficient of the product of two polynomials: that of the text, in which the"
-        + " symbol i is the coefficient of x to the power of i, and that of the pattern turned round, in which the"
-        + " symbol j is the coefficient of x to the power of the length of the pattern less 1 less j.")
+    @Sentence(promise = 13, says = PRODUCT)
     static void productOfAPatternThatIsLongerThanTheText() {
         // (2) (3 + 2x + x^2)
         Subject x = of("b", "abc");
@@ -101,10 +103,12 @@ public final class BlankMatcherProducts extends SentenceTests {
         x.due(26, "product", 0);
         x.due(26, "product", 1);
         x.due(0, "product", 2);
-        x.due(2, "clearPattern");
-        x.due(1, "appendPattern", 1);
-        x.due(1, "product", 0);
-        x.due(0, "product", 1);
+        Subject y = of("zz", "zz");
+        y.due(2, "clearPattern");
+        y.due(1, "appendPattern", 1);
+        y.due(26, "product", 0);
+        y.due(26, "product", 1);
+        y.due(0, "product", 2);
     }
 
     @Sentence(promise = 13, says = "Throws `IllegalArgumentException` if power is below 0")
@@ -116,8 +120,7 @@ public final class BlankMatcherProducts extends SentenceTests {
 
     // ---- promise 14: difference
 
-    @Sentence(promise = 14, says = "Returns the sum over all j of p * t * (p - t) * (p - t), where p is the symbol j of the"
-        + " pattern and t the symbol with which it is compared at a place.")
+    @Sentence(promise = 14, says = DIFFERENCE)
     static void differenceAddsAllSymbols() {
         // At 0: 2 1 (2-1)^2 and blanks; at 1: 2 2 0^2 and 1 4 (1-4)^2; at 2: a blank and 1 26 25^2.
         Subject x = of("ab.dz", "b.a");
@@ -126,8 +129,7 @@ public final class BlankMatcherProducts extends SentenceTests {
         x.due(16250, "difference", 2);
     }
 
-    @Sentence(promise = 14, says = "Returns the sum over all j of p * t * (p - t) * (p - t), where p is the symbol j of the"
-        + " pattern and t the symbol with which it is compared at a place.")
+    @Sentence(promise = 14, says = DIFFERENCE)
     static void differenceOfEachTwoSymbols() {
         for (int p = 0; p <= 26; p++) {
             Subject x = of("a", "a");

@@ -1,5 +1,12 @@
 // Promises 22 to 24: mismatches at all places together.
 public final class BlankMatcherRanking extends SentenceTests {
+    private static final String RANKED =
+        "Returns a place by its rank, if all places are ordered by how many mismatches they have,"
+        + " and those with as many by ascending places.";
+    private static final String BEST_LETTER =
+        "Returns which letter a symbol of the pattern would have to be, so that the pattern has"
+        + " the fewest mismatches, at all places together; the blank is not considered.";
+
     public static void main(String[] args) {
         run(BlankMatcherRanking.class);
     }
@@ -60,8 +67,7 @@ public final class BlankMatcherRanking extends SentenceTests {
 
     // ---- promise 23: ranked
 
-    @Sentence(promise = 23, says = "Returns a place by its rank, if all places are ordered by how many mismatches they have,"
-        + " and those with as many by ascending places.")
+    @Sentence(promise = 23, says = RANKED)
     static void rankedByMismatchesAndThenByPlaces() {
         // The mismatches are 0 2 2 2 0 2 2 1.
         Subject x = of("abxdabxxb", "ab");
@@ -71,8 +77,7 @@ public final class BlankMatcherRanking extends SentenceTests {
         }
     }
 
-    @Sentence(promise = 23, says = "Returns a place by its rank, if all places are ordered by how many mismatches they have,"
-        + " and those with as many by ascending places.")
+    @Sentence(promise = 23, says = RANKED)
     static void rankedFollowsEachChange() {
         Subject x = of("xab", "ab");
         x.due(1, "ranked", 0);
@@ -144,8 +149,7 @@ public final class BlankMatcherRanking extends SentenceTests {
 
     // ---- promise 24: bestLetter
 
-    @Sentence(promise = 24, says = "Returns which letter a symbol of the pattern would have to be, so that the pattern has"
-        + " the fewest mismatches, at all places together; the blank is not considered.")
+    @Sentence(promise = 24, says = BEST_LETTER)
     static void bestLetterCountsTheSymbolsAtAllPlaces() {
         // Symbol 0 meets z b z b . a b, symbol 1 meets b z b . a b c.
         Subject x = of("zbzb.abc", "ac");
@@ -157,8 +161,7 @@ public final class BlankMatcherRanking extends SentenceTests {
         of("zcc", "aa").due(3, "bestLetter", 1);
     }
 
-    @Sentence(promise = 24, says = "Returns which letter a symbol of the pattern would have to be, so that the pattern has"
-        + " the fewest mismatches, at all places together; the blank is not considered.")
+    @Sentence(promise = 24, says = BEST_LETTER)
     static void bestLetterIsNeverTheBlank() {
         of("..c.", "z").due(3, "bestLetter", 0);
         of("dd", ".").due(4, "bestLetter", 0);

@@ -1,5 +1,10 @@
 // Promises 25 to 28: sums and orders.
 public final class BlankMatcherSumsAndOrders extends SentenceTests {
+    private static final String SAME_ORDER =
+        "Returns at how many places the window has the order of the pattern: for any two symbols"
+        + " of the pattern, the first one is less than, equal to or greater than the second one just as the symbols of"
+        + " the window with which they are compared.";
+
     public static void main(String[] args) {
         run(BlankMatcherSumsAndOrders.class);
     }
@@ -112,18 +117,14 @@ public final class BlankMatcherSumsAndOrders extends SentenceTests {
 
     // ---- promise 27: orderMatches
 
-    @Sentence(promise = 27, says = "Returns at how many places the window has the order of the pattern: for any two symbols"
-        + " of the pattern, the first one is less than, equal to or greater than the second one just as the symbols of"
-        + " the window with which they are compared.")
+    @Sentence(promise = 27, says = SAME_ORDER)
     static void orderMatchesOfNeighbours() {
         of("abcab", "xz").due(3, "orderMatches");
         of("aabb", "cc").due(2, "orderMatches");
         of("abca", "zx").due(1, "orderMatches");
     }
 
-    @Sentence(promise = 27, says = "Returns at how many places the window has the order of the pattern: for any two symbols"
-        + " of the pattern, the first one is less than, equal to or greater than the second one just as the symbols of"
-        + " the window with which they are compared.")
+    @Sentence(promise = 27, says = SAME_ORDER)
     static void orderMatchesOfSymbolsAtADistance() {
         of("acbbca", "xzy").due(1, "orderMatches");
         of("acaabc", "bcb").due(1, "orderMatches");

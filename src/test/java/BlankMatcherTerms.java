@@ -1,5 +1,14 @@
 // What stands ahead of the promises: how many calls an object answers, the terms and the constants.
 public final class BlankMatcherTerms extends SentenceTests {
+    private static final String CALLS =
+        "An object is used for at most 512 calls after it has been made; what later calls answer is free.";
+    private static final String AGREE =
+        "Two symbols agree if they are equal, or if one of them is the blank; otherwise they are a mismatch.";
+    private static final String SYMBOLS = "A symbol is a number from 0 to 26: 0 is the blank, 1 to 26 are letters.";
+    private static final String LIMITS = "The text has at most 64 symbols, the pattern at most 24; both are empty at first.";
+    private static final String PLACES = "places are 0 to the length of the text less the length of the pattern.";
+    private static final String EMPTY_PATTERN = "the empty pattern has the places 0 to the length of the text.";
+
     private static final String[] COUNTS = {"places", "matches", "apart", "sumMatches", "orderMatches"};
     private static final String[] AT_A_PLACE = {"difference", "mismatches"};
     private static final String[] AT_A_NUMBER = {"match", "ranked", "sumMatch", "orderMatch"};
@@ -9,9 +18,6 @@ public final class BlankMatcherTerms extends SentenceTests {
     }
 
     // ---- what it is
-
-    private static final String CALLS =
-        "An object is used for at most 512 calls after it has been made; what later calls answer is free.";
 
     @Sentence(says = CALLS)
     static void comparingIsAnsweredUpToTheCall512() {
@@ -113,7 +119,7 @@ public final class BlankMatcherTerms extends SentenceTests {
         }
     }
 
-    @Sentence(says = "A symbol is a number from 0 to 26: 0 is the blank, 1 to 26 are letters.")
+    @Sentence(says = SYMBOLS)
     static void symbolsAreZeroToTwentySix() {
         Subject x = of("aa", "aa");
         for (int symbol : new int[] {0, 26}) {
@@ -131,7 +137,7 @@ public final class BlankMatcherTerms extends SentenceTests {
         x.holds("za.z", "za.z");
     }
 
-    @Sentence(says = "A symbol is a number from 0 to 26: 0 is the blank, 1 to 26 are letters.")
+    @Sentence(says = SYMBOLS)
     static void lettersAreOneToTwentySix() {
         Subject x = of("ba", "az");
         x.due(1, "mismatchesOf", 0, 1);
@@ -140,7 +146,7 @@ public final class BlankMatcherTerms extends SentenceTests {
         x.refused(ARGUMENT, "mismatchesOf", 0, 27);
     }
 
-    @Sentence(says = "Two symbols agree if they are equal, or if one of them is the blank; otherwise they are a mismatch.")
+    @Sentence(says = AGREE)
     static void agreementOfEachTwoSymbols() {
         for (int symbol = 0; symbol <= 26; symbol++) {
             Subject x = of("a", "a");
@@ -158,7 +164,7 @@ public final class BlankMatcherTerms extends SentenceTests {
         }
     }
 
-    @Sentence(says = "Two symbols agree if they are equal, or if one of them is the blank; otherwise they are a mismatch.")
+    @Sentence(says = AGREE)
     static void agreementOfEachTwoSymbolsOfTheText() {
         for (int symbol = 0; symbol <= 26; symbol++) {
             Subject x = of("aa", "");
@@ -174,7 +180,7 @@ public final class BlankMatcherTerms extends SentenceTests {
         }
     }
 
-    @Sentence(says = "The text has at most 64 symbols, the pattern at most 24; both are empty at first.")
+    @Sentence(says = LIMITS)
     static void textIsEmptyAtFirstAndHasAtMostSixtyFourSymbols() {
         Subject x = of("", "");
         x.due(0, "textLength");
@@ -186,7 +192,7 @@ public final class BlankMatcherTerms extends SentenceTests {
         x.due(64, "textLength");
     }
 
-    @Sentence(says = "The text has at most 64 symbols, the pattern at most 24; both are empty at first.")
+    @Sentence(says = LIMITS)
     static void patternIsEmptyAtFirstAndHasAtMostTwentyFourSymbols() {
         Subject x = of("a".repeat(25), "");
         x.due(0, "patternLength");
@@ -213,7 +219,7 @@ public final class BlankMatcherTerms extends SentenceTests {
 
     // ---- places and windows
 
-    @Sentence(says = "places are 0 to the length of the text less the length of the pattern.")
+    @Sentence(says = PLACES)
     static void placesOfEachTwoLengths() {
         for (int textLength = 0; textLength <= 64; textLength++) {
             for (int patternLength = 0; patternLength <= Math.min(24, textLength); patternLength++) {
@@ -226,7 +232,7 @@ public final class BlankMatcherTerms extends SentenceTests {
         }
     }
 
-    @Sentence(says = "places are 0 to the length of the text less the length of the pattern.")
+    @Sentence(says = PLACES)
     static void noPlaceBeforeTheFirstOrBehindTheLast() {
         for (String[] pair : new String[][] {{"abcde", "aa"}, {"abc", "abc"}, {FULL_TEXT, FULL_PATTERN}}) {
             int behind = pair[0].length() - pair[1].length() + 1;
@@ -264,7 +270,7 @@ public final class BlankMatcherTerms extends SentenceTests {
         }
     }
 
-    @Sentence(says = "the empty pattern has the places 0 to the length of the text.")
+    @Sentence(says = EMPTY_PATTERN)
     static void placesOfTheEmptyPattern() {
         for (int length = 0; length <= 64; length++) {
             Subject x = of("a".repeat(length), "");
@@ -286,7 +292,7 @@ public final class BlankMatcherTerms extends SentenceTests {
         }
     }
 
-    @Sentence(says = "the empty pattern has the places 0 to the length of the text.")
+    @Sentence(says = EMPTY_PATTERN)
     static void noOtherPlacesOfTheEmptyPattern() {
         for (String text : new String[] {"", "abc", FULL_TEXT}) {
             for (int place : new int[] {-1, text.length() + 1, MOST, LEAST}) {

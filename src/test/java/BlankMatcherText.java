@@ -1,5 +1,8 @@
 // Promises 1 to 4 and 8, 10: a new object and the calls that change the text.
 public final class BlankMatcherText extends SentenceTests {
+    private static final String NO_SUCH_PART =
+        "Throws `IndexOutOfBoundsException` if the text does not have the symbols from to from + many - 1";
+
     public static void main(String[] args) {
         run(BlankMatcherText.class);
     }
@@ -55,9 +58,14 @@ public final class BlankMatcherText extends SentenceTests {
         Subject x = of("", "");
         x.due(0, "textLength");
         x.due(0, "patternLength");
+        full.due(64, "textLength");
+        full.due(24, "patternLength");
         x.due(1, "appendText", 26);
-        x.due(1, "appendPattern", 26);
-        full.holds(FULL_TEXT, FULL_PATTERN);
+        x.due(1, "appendPattern", 25);
+        full.due(1, "setText", 0, 3);
+        full.due(26, "setPattern", 0, 4);
+        x.due(26, "setText", 0, 1);
+        x.due(25, "setPattern", 0, 1);
     }
 
     // ---- promise 2: appendText
@@ -187,8 +195,7 @@ public final class BlankMatcherText extends SentenceTests {
         }
     }
 
-    @Sentence(promise = 3,
-        says = "Throws `IndexOutOfBoundsException` if the text does not have the symbols from to from + many - 1")
+    @Sentence(promise = 3, says = NO_SUCH_PART)
     static void repeatTextRefusesAFirstSymbolThatIsNotThere() {
         for (int from : new int[] {-1, -2, 3, 4, 63, 64, MOST, LEAST}) {
             of("abc", "a").refused(INDEX, "repeatText", from, 1);
@@ -197,8 +204,7 @@ public final class BlankMatcherText extends SentenceTests {
         of("", "a").refused(INDEX, "repeatText", 0, 1);
     }
 
-    @Sentence(promise = 3,
-        says = "Throws `IndexOutOfBoundsException` if the text does not have the symbols from to from + many - 1")
+    @Sentence(promise = 3, says = NO_SUCH_PART)
     static void repeatTextRefusesALastSymbolThatIsNotThere() {
         Subject x = of("abc", "a");
         x.refused(INDEX, "repeatText", 0, 4);
@@ -209,8 +215,7 @@ public final class BlankMatcherText extends SentenceTests {
         x.due(14, "repeatText", 0, 7);
     }
 
-    @Sentence(promise = 3,
-        says = "Throws `IndexOutOfBoundsException` if the text does not have the symbols from to from + many - 1")
+    @Sentence(promise = 3, says = NO_SUCH_PART)
     static void repeatTextRefusesSymbolsBehindTheTextThatWereCleared() {
         Subject x = of("abcdef", "");
         x.due(6, "clearText");
@@ -219,8 +224,7 @@ public final class BlankMatcherText extends SentenceTests {
         x.refused(INDEX, "repeatText", 1, 1);
     }
 
-    @Sentence(promise = 3,
-        says = "Throws `IndexOutOfBoundsException` if the text does not have the symbols from to from + many - 1")
+    @Sentence(promise = 3, says = NO_SUCH_PART)
     static void repeatTextRefusesSumsThatWrapRound() {
         int[][] parts = {
             {1, MOST}, {2, MOST}, {3, MOST}, {MOST, 1}, {MOST, 2}, {MOST, 3}, {MOST - 1, 3}, {MOST, MOST},
