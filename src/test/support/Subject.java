@@ -35,10 +35,13 @@ final class Subject {
     /** Letters are written by their signs, the blank by a point. */
     Subject(String text, String pattern) {
         for (char sign : text.toCharArray()) {
-            make(new Made("appendText", new int[] {symbol(sign)}));
+            make("appendText", symbol(sign));
         }
         for (char sign : pattern.toCharArray()) {
-            make(new Made("appendPattern", new int[] {symbol(sign)}));
+            make("appendPattern", symbol(sign));
+        }
+        if (answered.size() != text.length() + pattern.length()) {
+            throw new AssertionError("refuses some symbols of '" + text + "' or '" + pattern + "'");
         }
     }
 
